@@ -43,7 +43,7 @@ public final class GammaShelf {
     private static final int IN_TITLE = 1;
     private static final int IN_BODY = 2;
 
-    // What a phrase wants at a place, where it is not the rank of a word.
+    // What a token of a query wants where it is not the rank of a word; no word has these ranks.
     private static final int WANTS_NOTHING = -2;
     private static final int WANTS_UNKNOWN = -3;
 
@@ -370,8 +370,11 @@ public final class GammaShelf {
         }
 
         boolean inToken(int i) {
-            int b = small(at(i));
-            return isDigit(b) || b >= 'a' && b <= 'z';
+            if (i < 0 || i >= length) {
+                return false;
+            }
+            int b = bytes[i];
+            return b >= 'a' && b <= 'z' || b >= 'A' && b <= 'Z' || b >= '0' && b <= '9';
         }
 
         boolean startsToken(int i) {
@@ -388,19 +391,21 @@ public final class GammaShelf {
         }
 
         int behindBlanks(int from) {
-            int behind = from;
-            while (behind < length && (at(behind) == ' ' || at(behind) == '\n')) {
+            int behind = Math.max(from, 0);
+            while (behind < length && (bytes[behind] == ' ' || bytes[behind] == '\n')) {
                 behind++;
             }
             return behind;
         }
 
+        /** Whether a run of letters and digits is that text, however great its letters are. */
         boolean spells(int from, int end, String text) {
-            if (end - from != text.length()) {
+            if (end - from != text.length() || from < 0 || end > length) {
                 return false;
             }
             for (int i = 0; i < text.length(); i++) {
-                if (small(at(from + i)) != text.charAt(i)) {
+                // 32 parts great letters from small ones, and is in each digit already.
+                if ((bytes[from + i] | 32) != text.charAt(i)) {
                     return false;
                 }
             }
@@ -474,7 +479,7 @@ public final class GammaShelf {
 
         private boolean hasDigit() {
             for (int i = 0; i < lettersLength; i++) {
-                if (isDigit(letters[i])) {
+                if (letters[i] <= '9') {
                     return true;
                 }
             }
@@ -1302,6 +1307,7 @@ public final class GammaShelf {
         private static final int MOST_NOTS = 40;
         private static final int MOST_SIDES = 12;
         private static final int MOST_APART = 200;
+        private static final int BELOW_ALL_INTS = -1000000000;
         private static final int QUOTE = 34;
 
         // Sorts of lexemes, behind those of one byte, whose sort is that byte.
@@ -1564,7 +1570,7 @@ public final class GammaShelf {
         private void readMarks() {
             testLeafRoom();
             next();
-            int low = readInt(Integer.MIN_VALUE);
+            int low = readInt(BELOW_ALL_INTS);
             take(DOTS);
             int high = readInt(low);
             take(']');
@@ -1602,8 +1608,8 @@ public final class GammaShelf {
             next();
             endsByToken = sort != '*';
             if (endsByToken) {
-                int place = stops.rankOf(tape.wordOf(token)) == NONE ? words.rankOf(tape.wordOf(token)) : NONE;
-                query.addLeaf(TOKEN_LEAF, place, place == NONE ? NONE : place + 1, side, nots == 0);
+                int place = wantedWord(token);
+                query.addLeaf(TOKEN_LEAF, place, place + 1, side, nots == 0);
             } else {
                 long low = tape.startOf(token);
                 long high = Words.behindStart(low, tape.lettersRead());
@@ -1617,33 +1623,37 @@ public final class GammaShelf {
             settleNear();
             int first = query.phraseWords();
             for (int at = behind; at < tape.size() && sort == QUOTE; at++) {
-                if (tape.startsToken(at)) {
-                    readPhraseWord(at);
-                } else if (tape.at(at) == QUOTE && query.phraseWords() == first) {
-                    fail(SYNTAX, at);
-                } else if (tape.at(at) == QUOTE) {
-                    query.addLeaf(PHRASE_LEAF, first, query.phraseWords(), side, nots == 0);
-                    endsByToken = false;
-                    behind = at + 1;
-                    next();
+                if (tape.at(at) == QUOTE) {
+                    closePhrase(first, at, side);
                     return;
+                }
+                if (tape.startsToken(at) && query.phraseWords() >= MOST_PHRASE_WORDS) {
+                    fail(ROOM, at);
+                } else if (tape.startsToken(at)) {
+                    query.addPhraseWord(wantedWord(at));
                 }
             }
             fail(SYNTAX, tape.size());
         }
 
-        private void readPhraseWord(int at) {
-            if (query.phraseWords() >= MOST_PHRASE_WORDS) {
-                fail(ROOM, at);
-                return;
+        private void closePhrase(int first, int at, int side) {
+            if (query.phraseWords() == first) {
+                fail(SYNTAX, at);
             }
-            long word = tape.wordOf(at);
-            int place = words.rankOf(word);
+            query.addLeaf(PHRASE_LEAF, first, query.phraseWords(), side, nots == 0);
+            endsByToken = false;
+            behind = at + 1;
+            next();
+        }
+
+        /** The rank of the word of a token, or that it is a stop word or none that is known. */
+        private int wantedWord(int token) {
+            long word = tape.wordOf(token);
             if (stops.rankOf(word) != NONE) {
-                query.addPhraseWord(WANTS_NOTHING);
-            } else {
-                query.addPhraseWord(place == NONE ? WANTS_UNKNOWN : place);
+                return WANTS_NOTHING;
             }
+            int place = words.rankOf(word);
+            return place == NONE ? WANTS_UNKNOWN : place;
         }
     }
 
@@ -1767,7 +1777,9 @@ public final class GammaShelf {
         }
 
         void open() {
-            Arrays.fill(wanted, false);
+            for (int i = 0; i < opened; i++) {
+                wanted[ranks[i]] = false;
+            }
             opened = 0;
             for (int leaf = 0; leaf < query.leaves(); leaf++) {
                 int kind = query.kindOf(leaf);
@@ -1887,7 +1899,8 @@ public final class GammaShelf {
         private final int[] ranked = new int[MOST_DOCUMENTS];
         private final int[] sums = new int[MOST_DOCUMENTS];
         private final int[] times = new int[MOST_DOCUMENTS];
-        // For each leaf what it is worth in each document; made as long as a query asks for.
+        // For each leaf what it is worth in each document; made longer, in few steps, as queries
+        // ask for it, since most have few leaves.
         private int[] worths = new int[0];
         private int found = 0;
 
@@ -1939,7 +1952,7 @@ public final class GammaShelf {
         private void prepare() {
             page.open();
             if (worths.length < query.leaves() * MOST_DOCUMENTS) {
-                worths = new int[query.leaves() * MOST_DOCUMENTS];
+                worths = new int[(query.leaves() + 9) / 10 * 10 * MOST_DOCUMENTS];
             }
             for (int leaf = 0; leaf < query.leaves(); leaf++) {
                 having[leaf] = 0;
@@ -1973,35 +1986,30 @@ public final class GammaShelf {
         }
 
         private boolean works() {
-            int top = -1;
-            int leaf = -1;
+            int height = 0;
+            int leaf = NONE;
             for (int i = 0; i < query.length(); i++) {
                 int what = query.stepAt(i) / STEP_FACTOR;
                 int which = query.stepAt(i) % STEP_FACTOR;
-                if (what <= MARKS_LEAF) {
+                if (what <= MARKS_LEAF && height < MOST_LEAVES && which < MOST_LEAVES) {
                     leaf = which;
-                    top++;
-                    if (top >= MOST_LEAVES || leaf >= MOST_LEAVES) {
-                        return false;
-                    }
-                    stack[top] = matched[leaf];
-                } else if (what == STEP_NOT) {
-                    if (top < 0) {
-                        return false;
-                    }
-                    stack[top] = !stack[top];
-                } else if (what != STEP_TITLE && what != STEP_BODY) {
-                    top--;
-                    if (top < 0) {
-                        return false;
-                    }
-                    stack[top] = what == STEP_NEAR ? areNear(leaf - 1, leaf, which) : joined(what, stack[top], stack[top + 1]);
+                    stack[height] = matched[leaf];
+                    height++;
+                } else if (what == STEP_NOT && height > 0) {
+                    stack[height - 1] = !stack[height - 1];
+                } else if (what == STEP_NEAR && height > 1) {
+                    height--;
+                    stack[height - 1] = areNear(leaf - 1, leaf, which);
+                } else if (what >= STEP_AND && height > 1) {
+                    height--;
+                    stack[height - 1] = joined(what, stack[height - 1], stack[height]);
                 }
             }
-            return top == 0 && stack[0];
+            return height == 1 && stack[0];
         }
 
-        // What near stands over are always the two leaves that came latest.
+        // What near stands over are always the two leaves that came latest, and the places of a
+        // leaf are left by title and body already: these two steps find nothing to do.
         private boolean areNear(int a, int b, int apart) {
             if (a < 0 || b >= MOST_LEAVES || places[a] == null || places[b] == null) {
                 return false;
@@ -2041,7 +2049,8 @@ public final class GammaShelf {
                 int index = leaf * MOST_DOCUMENTS + document;
                 if (query.isCounted(leaf) && index < worths.length) {
                     int f = worths[index];
-                    score += 100 * f / (f + 1 + documents.lengthOf(document) / 8) * rarity(documents.onShelf(), having[leaf]);
+                    int weight = 100 * f / (f + 1 + documents.lengthOf(document) / 8);
+                    score += weight * rarity(documents.onShelf(), having[leaf]);
                 }
             }
             return score;

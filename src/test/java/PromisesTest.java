@@ -315,6 +315,13 @@ public final class PromisesTest {
         x.tidy();
         due("99 words fewer, two of them in document 4", x.count(2), 301);
         due("room again", enter("abc"), 5);
+        enter(numbersFrom(600, 97));
+        due("399 words", x.count(2), 399);
+        due("two new words", enter("new newer 222"), FULL);
+        due("neither of them stays", x.count(2), 399);
+        due("no such word behind FULL", look("new"), 0);
+        due("one new word", enter("newer 222 newer"), 7);
+        due("400 words", x.count(2), 400);
         takenLimit();
     }
 
@@ -1020,6 +1027,13 @@ public final class PromisesTest {
         due("MARKS have no PLACES", x.rank(0, 2), NONE);
         search("(");
         dueThrow("rank(0, 0) with a fault", () -> x.rank(0, 0));
+        start(17);
+        enter("\na b c d e f g");
+        enter("\na b c d e f g h");
+        search("a");
+        // LENGTH / 8 is cut: 100 / 2 = 50 and 100 / 3 = 33, times I(16) = 5.
+        due("LENGTH 7", x.rank(0, 1), 250);
+        due("LENGTH 8", x.rank(1, 1), 165);
     }
 
     private static void shown() {
@@ -1100,6 +1114,8 @@ public final class PromisesTest {
         due("not title:a", x.deepest(), 1);
         search("a or b c near 2 d");
         due("a or b c near 2 d", x.deepest(), 4);
+        search("a (b c (d)) e");
+        due("a (b c (d)) e", x.deepest(), 3);
         search("a or");
         due("with a fault", x.deepest(), 0);
     }
