@@ -1671,11 +1671,15 @@ public final class GammaShelf {
         }
 
         void clearTitle() {
-            Arrays.fill(row, 0, BODY_INT, 0);
+            for (int i = 0; i < BODY_INT; i++) {
+                row[i] = 0;
+            }
         }
 
         void clearBody() {
-            Arrays.fill(row, BODY_INT, INTS, 0);
+            for (int i = BODY_INT; i < INTS; i++) {
+                row[i] = 0;
+            }
         }
 
         void put(int place) {
