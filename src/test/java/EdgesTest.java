@@ -975,6 +975,8 @@ public final class EdgesTest {
         due("TAKEN", x().count(3), 40000);
         due("3 more: 35", enter("x"), FULL);
         due("an empty one", x().enter(), 7);
+        due("100 and x", enter("100 x"), FULL);
+        due("100 alone: x needs nothing", enter("100"), 8);
     }
 
     private static void refusedTextLeavesAll() {
@@ -1512,6 +1514,7 @@ public final class EdgesTest {
         starts();
         phraseBorders();
         oneTextAfterTheOther();
+        oneSearchAfterTheOther();
         phraseStopWords();
         stopWordAlone();
         marks();
@@ -1594,6 +1597,38 @@ public final class EdgesTest {
         finds("a", 119);
     }
 
+    private static void oneSearchAfterTheOther() {
+        sentence("the latest search()");
+        enter("b c");
+        finds("b c", 0);
+        enter("a");
+        // Now b stands where c stood by bytes, but c is asked for no more.
+        finds("b", 0);
+        scoreIs(0, 75 * 6);
+        finds("c", 0);
+        scoreIs(0, 75 * 6);
+        fresh();
+        enter("b");
+        enter("a a a");
+        x().remove(1);
+        finds("a");
+        finds("a");
+        finds("a or b", 0);
+        scoreIs(0, 75 * 5);
+        enter("a");
+        finds("a", 2);
+        look("a");
+        due("DOCUMENTS ON", x().posting(2), 1);
+        sentence("400 WORDS in one query");
+        fill();
+        finds("1* or 2* or 3* or 4*", 0, 1, 2, 3, 4);
+        finds("4* or 3* or 2* or 1*", 0, 1, 2, 3, 4);
+        finds("499", 2);
+        finds("(1* or 2* or 3* or 4*) 499", 2);
+        finds("4* 499 not 498");
+        finds("100 not 4*", 0, 3);
+    }
+
     private static void phraseStopWords() {
         sentence("wants nothing at its PLACE, not even that there is one");
         enter("a b\na b");
@@ -1637,6 +1672,11 @@ public final class EdgesTest {
         finds("\"a the\"");
         finds("\"a the a\"");
         finds("not \"a the\"", 0);
+        finds("b", 0);
+        finds("b \"the\"");
+        finds("b not \"the a\"", 0);
+        finds("b or \"a\"", 0);
+        shownIs(0, 2);
     }
 
     private static void stopWordAlone() {
